@@ -24,8 +24,8 @@ public final class ClockLodgers {
     private static final int MOST_SUM = 9999;
     private static final int LEAST_BASE = 20;
     private static final int MOST_BASE = 60;
+    private static final int MOST_OIL = 30;
     private static final int MOST_COINS = 99;
-    private static final int MOST_RENT = 99;
     private static final int MOST_WINDY_DAYS = 40;
 
     private static final int TEXTS = 0;
@@ -177,7 +177,7 @@ public final class ClockLodgers {
         needTenant(tenant);
         needDay(day);
         int oilLeft = dwelling.oilLeft(day);
-        return pendulum.slowness(0, LAST_HOUR, oilLeft, NONE) - pendulum.slowness(0, LAST_HOUR, oilLeft, tenant);
+        return pendulum.slownessOfDay(oilLeft) - pendulum.slowness(0, LAST_HOUR, oilLeft, tenant);
     }
 
     public int house4(int tenants, int day) throws IllegalArgumentException {
@@ -272,8 +272,9 @@ public final class ClockLodgers {
         if (base < LEAST_BASE || base > MOST_BASE) {
             throw new IllegalArgumentException("no base from 20 to 60");
         }
-        int hours = pendulum.hoursHere(tenant, base, day);
-        return what == 0 ? hours : pendulum.fartherOfBoth(tenant, base, day, hours);
+        int here = pendulum.slownessOfDay(dwelling.oilLeft(day));
+        int hours = pendulum.hoursHere(tenant, base, here);
+        return what == 0 ? hours : pendulum.fartherOfBoth(tenant, base, here, hours);
     }
 
     public int wind(int seed, int days, int chance) throws IllegalArgumentException {
@@ -409,6 +410,14 @@ public final class ClockLodgers {
             return Math.max(0, oil - gone);
         }
 
+        /** The first day on which less oil is left than on a day, or the one behind the last. */
+        int dayOfLessOil(int day) {
+            if (oilLeft(day) == 0 || oilDays <= 0) {
+                return LAST_DAY + 1;
+            }
+            return Math.min(LAST_DAY + 1, (day / oilDays + 1) * oilDays);
+        }
+
         int swingOf(int left, int right, int pause, int oilLeft) {
             int weights = weightOf(left) + weightOf(right) + weightOf(pause);
             int couples = quarrelsOf(left, right) + quarrelsOf(left, pause) + quarrelsOf(right, pause);
@@ -416,187 +425,245 @@ public final class ClockLodgers {
         }
     }
 
-    /** The tokens of a text, one at a time; a sign's kind is the sign itself. */
+    /** The tokens of a text, in rows; a sign's kind is the sign itself, a word's is its place among WORDS. */
     private static final class Tokens {
         static final int END = 0;
-        static final int WORD = 1;
-        static final int NUMBER = 2;
-        static final int NO_TOKEN = 3;
-        private static final int MOST_DIGITS = 4;
+        static final int NUMBER = 1;
+        static final int NO_TOKEN = 2;
+        static final int OTHER_WORD = 100;
+        static final int BASE = 101;
+        static final int OIL = 102;
+        static final int STOP = 103;
+        static final int TENANT = 104;
+        static final int QUARREL = 105;
+        static final int RULE = 106;
+        static final int LEFT_BREATH = 107;
+        static final int BOTH_BREATHS = 109;
+        static final int OR = 110;
+        static final int AND = 111;
+        static final int NOT = 112;
+        static final int FIRST_VALUE = 113;
+        static final int LAST_VALUE = 118;
+        private static final String WORDS =
+                "base oil stop tenant quarrel rule left right both or and not weight half hour hours other quarrels ";
         private static final String SIGNS = ";()+-*/<=";
+        private static final int MOST_DIGITS = 4;
 
-        private byte[] text = new byte[0];
+        private final byte[] text = new byte[MOST_BYTES];
         private int size;
-        private int end;
-        int start;
-        int kind;
-        /** NONE, if it has too many digits. */
-        int number;
+        private final int[] kinds = new int[MOST_BYTES + 1];
+        private final int[] starts = new int[MOST_BYTES + 1];
+        private final int[] numbers = new int[MOST_BYTES + 1];
+        private int now;
 
+        /** Takes a text apart and stands at its first token; the last one, END, has the text's length as its place. */
         void begin(byte[] bytes, int howMany) {
-            text = bytes;
-            size = Math.min(howMany, bytes.length);
-            end = 0;
-            advance();
+            size = Math.max(0, Math.min(howMany, Math.min(bytes.length, MOST_BYTES)));
+            System.arraycopy(bytes, 0, text, 0, size);
+            now = 0;
+            int start = 0;
+            for (int i = 0; i < MOST_BYTES && start < size; i++) {
+                int end = endOfToken(start);
+                if (text[start] != ' ' && text[start] != '\n') {
+                    putToken(start, end);
+                    now++;
+                }
+                start = end;
+            }
+            starts[now] = size;
+            kinds[now] = END;
+            now = 0;
         }
 
-        void advance() {
-            while (end < size && (text[end] == ' ' || text[end] == '\n')) {
-                end++;
+        private int endOfToken(int start) {
+            int end = start + 1;
+            if (isLetter(start)) {
+                while (end < size && isLetter(end)) {
+                    end++;
+                }
+            } else if (isDigit(start)) {
+                while (end < size && isDigit(end)) {
+                    end++;
+                }
             }
-            start = end;
-            if (end >= size) {
-                kind = END;
-            } else if (isLetter(end)) {
-                takeWord();
-            } else if (isDigit(end)) {
-                takeNumber();
+            return end;
+        }
+
+        private void putToken(int start, int end) {
+            starts[now] = start;
+            if (isLetter(start)) {
+                kinds[now] = kindOfWord(start, end);
+            } else if (isDigit(start)) {
+                kinds[now] = NUMBER;
+                numbers[now] = numberOf(start, end);
             } else {
-                int sign = text[end];
-                kind = sign > 0 && SIGNS.indexOf((char) sign) >= 0 ? sign : NO_TOKEN;
-                end++;
+                int sign = text[start];
+                kinds[now] = sign > 0 && SIGNS.indexOf((char) sign) >= 0 ? sign : NO_TOKEN;
             }
         }
 
-        private void takeWord() {
-            kind = WORD;
-            while (end < size && isLetter(end)) {
-                end++;
+        private int numberOf(int start, int end) {
+            if (end - start > MOST_DIGITS) {
+                return NONE;
             }
+            int number = 0;
+            for (int i = start; i < end; i++) {
+                number = number * 10 + text[i] - '0';
+            }
+            return number;
         }
 
-        private void takeNumber() {
-            kind = NUMBER;
-            number = 0;
-            while (end < size && isDigit(end)) {
-                boolean fits = number != NONE && end - start < MOST_DIGITS;
-                number = fits ? number * 10 + text[end] - '0' : NONE;
-                end++;
+        private int kindOfWord(int start, int end) {
+            int kind = BASE;
+            int wordStart = 0;
+            for (int i = 0; i < WORDS.length(); i++) {
+                if (WORDS.charAt(i) == ' ') {
+                    if (i - wordStart == end - start && isWordAt(wordStart, start, end)) {
+                        return kind;
+                    }
+                    kind++;
+                    wordStart = i + 1;
+                }
             }
+            return OTHER_WORD;
         }
 
-        boolean isWord(String word) {
-            if (kind != WORD || end - start != word.length()) {
-                return false;
-            }
-            for (int i = 0; i < word.length(); i++) {
-                if (text[start + i] != word.charAt(i)) {
+        private boolean isWordAt(int wordStart, int start, int end) {
+            for (int i = start; i < end; i++) {
+                if (WORDS.charAt(wordStart + i - start) != text[i]) {
                     return false;
                 }
             }
             return true;
         }
 
-        private boolean isLetter(int i) {
-            return text[i] >= 'a' && text[i] <= 'z';
+        private boolean isLetter(int place) {
+            return text[place] >= 'a' && text[place] <= 'z';
         }
 
-        private boolean isDigit(int i) {
-            return text[i] >= '0' && text[i] <= '9';
+        private boolean isDigit(int place) {
+            return text[place] >= '0' && text[place] <= '9';
+        }
+
+        int kind() {
+            return kinds[now];
+        }
+
+        boolean isWord() {
+            return kinds[now] >= OTHER_WORD;
+        }
+
+        /** NONE, if it has too many digits. */
+        int number() {
+            return numbers[now];
+        }
+
+        int place() {
+            return starts[now];
+        }
+
+        void advance() {
+            if (kinds[now] != END && now < MOST_BYTES) {
+                now++;
+            }
         }
     }
 
-    /** Reads a text into a draft, so that a fault leaves the house as it was. Its private readers answer 0 or the fault of the token they stopped at. */
+    /**
+     * Reads a text into a draft, so that a fault leaves the house as it was.
+     * Its private readers answer 0, or the fault of the token at which they stopped.
+     */
     private static final class HouseReader {
         static final int CANT_STAND = 1;
         static final int TOO_MUCH = 2;
         static final int UNKNOWN = 3;
         static final int SAME_COUPLE = 4;
         static final int TOLD_TWICE = 5;
-        private static final int SEEN_BASE = 1;
-        private static final int SEEN_OIL = 2;
-        private static final int SEEN_STOP = 4;
 
         final House draft = new House();
         private final Tokens tokens = new Tokens();
         private final RuleReader ruleReader = new RuleReader(tokens, draft);
-        private int seen;
+        private boolean baseTold;
+        private boolean oilTold;
+        private boolean stopTold;
         private int number;
 
         int read(byte[] text, int size) {
             tokens.begin(text, size);
             draft.clear();
-            seen = 0;
+            baseTold = false;
+            oilTold = false;
+            stopTold = false;
             int fault = 0;
-            for (int i = 0; i < MOST_BYTES && fault == 0 && tokens.kind != Tokens.END; i++) {
+            for (int i = 0; i < MOST_BYTES && fault == 0 && tokens.kind() != Tokens.END; i++) {
                 fault = readLine();
+                if (fault == 0) {
+                    fault = readEndOfLine();
+                }
             }
             return fault;
         }
 
         /** Where the fault is: no reader goes past a token that has one. */
         int place() {
-            return tokens.start;
+            return tokens.place();
         }
 
-        private int readLine() {
-            int fault = readTold();
-            if (fault != 0) {
-                return fault;
-            }
-            if (tokens.kind != ';') {
+        private int readEndOfLine() {
+            if (tokens.kind() != ';') {
                 return CANT_STAND;
             }
             tokens.advance();
             return 0;
         }
 
-        private int readTold() {
-            if (tokens.isWord("base")) {
-                return readBase();
+        private int readLine() {
+            switch (tokens.kind()) {
+                case Tokens.BASE: return readBase();
+                case Tokens.OIL: return readOil();
+                case Tokens.STOP: return readStop();
+                case Tokens.TENANT: return readTenant();
+                case Tokens.QUARREL: return readQuarrel();
+                case Tokens.RULE: return readRule();
+                default: return CANT_STAND;
             }
-            if (tokens.isWord("oil")) {
-                return readOil();
-            }
-            if (tokens.isWord("stop")) {
-                return readStop();
-            }
-            if (tokens.isWord("tenant")) {
-                return readTenant();
-            }
-            if (tokens.isWord("quarrel")) {
-                return readQuarrel();
-            }
-            if (tokens.isWord("rule")) {
-                return readRule();
-            }
-            return CANT_STAND;
         }
 
         private int readBase() {
-            int fault = passOnce(SEEN_BASE);
-            if (fault == 0) {
-                fault = readNumber(LEAST_BASE, MOST_BASE);
+            if (baseTold) {
+                return TOLD_TWICE;
             }
-            if (fault == 0) {
-                draft.base = number;
-            }
+            baseTold = true;
+            tokens.advance();
+            int fault = readNumber(LEAST_BASE, MOST_BASE);
+            draft.base = number;
             return fault;
         }
 
         private int readOil() {
-            int fault = passOnce(SEEN_OIL);
-            if (fault == 0) {
-                fault = readNumber(0, 30);
+            if (oilTold) {
+                return TOLD_TWICE;
             }
-            if (fault == 0) {
-                draft.oil = number;
-                fault = readNumber(1, 99);
+            oilTold = true;
+            tokens.advance();
+            int fault = readNumber(0, MOST_OIL);
+            if (fault != 0) {
+                return fault;
             }
-            if (fault == 0) {
-                draft.oilDays = number;
-            }
+            draft.oil = number;
+            fault = readNumber(1, 99);
+            draft.oilDays = number;
             return fault;
         }
 
         private int readStop() {
-            int fault = passOnce(SEEN_STOP);
-            if (fault == 0) {
-                fault = readNumber(41, 400);
+            if (stopTold) {
+                return TOLD_TWICE;
             }
-            if (fault == 0) {
-                draft.stop = number;
-            }
+            stopTold = true;
+            tokens.advance();
+            int fault = readNumber(41, 400);
+            draft.stop = number;
             return fault;
         }
 
@@ -611,31 +678,21 @@ public final class ClockLodgers {
                 return fault;
             }
             draft.weight[who] = number;
-            draft.breath[who] = breathTold();
-            if (draft.breath[who] == NONE) {
+            if (tokens.kind() < Tokens.LEFT_BREATH || tokens.kind() > Tokens.BOTH_BREATHS) {
                 return CANT_STAND;
             }
+            draft.breath[who] = tokens.kind() - Tokens.LEFT_BREATH;
             tokens.advance();
             fault = readNumber(1, 12);
             if (fault != 0) {
                 return fault;
             }
             draft.stay[who] = number;
-            fault = readNumber(0, MOST_RENT);
+            fault = readNumber(0, 99);
             draft.rentAnHour[who] = number;
             draft.foes[who] = 0;
             draft.tenants++;
             return fault;
-        }
-
-        private int breathTold() {
-            if (tokens.isWord("left")) {
-                return LEFT;
-            }
-            if (tokens.isWord("right")) {
-                return RIGHT;
-            }
-            return tokens.isWord("both") ? BOTH_SIDES : NONE;
         }
 
         private int readQuarrel() {
@@ -647,13 +704,13 @@ public final class ClockLodgers {
             if (fault != 0) {
                 return fault;
             }
-            int one = tokens.number;
+            int one = tokens.number();
             tokens.advance();
             fault = tenantFault();
             if (fault != 0) {
                 return fault;
             }
-            int other = tokens.number;
+            int other = tokens.number();
             if (one == other || draft.quarrelsOf(one, other) != 0) {
                 return SAME_COUPLE;
             }
@@ -670,27 +727,16 @@ public final class ClockLodgers {
             }
             tokens.advance();
             int fault = ruleReader.read();
-            if (fault == 0) {
-                draft.ruleEnd[draft.rules] = draft.codeSize;
-                draft.rules++;
-            }
+            draft.ruleEnd[draft.rules] = draft.codeSize;
+            draft.rules++;
             return fault;
         }
 
-        private int passOnce(int word) {
-            if ((seen & word) != 0) {
-                return TOLD_TWICE;
-            }
-            seen |= word;
-            tokens.advance();
-            return 0;
-        }
-
         private int readNumber(int least, int most) {
-            if (tokens.kind != Tokens.NUMBER) {
+            if (tokens.kind() != Tokens.NUMBER) {
                 return CANT_STAND;
             }
-            number = tokens.number;
+            number = tokens.number();
             if (number < least || number > most) {
                 return TOO_MUCH;
             }
@@ -699,13 +745,13 @@ public final class ClockLodgers {
         }
 
         private int tenantFault() {
-            if (tokens.kind != Tokens.NUMBER) {
+            if (tokens.kind() != Tokens.NUMBER) {
                 return CANT_STAND;
             }
-            if (tokens.number == NONE) {
+            if (tokens.number() == NONE) {
                 return TOO_MUCH;
             }
-            return draft.hasTenant(tokens.number) ? 0 : UNKNOWN;
+            return draft.hasTenant(tokens.number()) ? 0 : UNKNOWN;
         }
     }
 
@@ -725,8 +771,9 @@ public final class ClockLodgers {
         private static final int OPEN = 0;
         /** How tightly each operator binds, by its number. */
         private static final int[] BINDS = {0, 1, 2, 3, 4, 4, 5, 5, 6, 6};
-        private static final int BINDS_TEST = 4;
-        private static final int BINDS_SUM = 5;
+        private static final int LOOSEST = 1;
+        private static final int TEST = 4;
+        private static final int SUM = 5;
         private static final int MOST_DEPTH = 6;
         private static final int MOST_NOTS = 6;
         /** A depth holds at most a parenthesis, six nots and one operator of each of five strengths. */
@@ -746,16 +793,17 @@ public final class ClockLodgers {
             this.draft = draft;
         }
 
+        /** Stops at the ';' behind the EXPR. */
         int read() {
             waits = 0;
             depth = 0;
-            expectNot();
+            wantPart(true);
             int fault = 0;
             for (int i = 0; i <= MOST_BYTES && fault == 0; i++) {
                 if (wantsPart) {
                     fault = readPart();
-                } else if (tokens.kind == ';' && depth == 0) {
-                    writeFrom(OR);
+                } else if (tokens.kind() == ';' && depth == 0) {
+                    writeBinding(LOOSEST);
                     return 0;
                 } else {
                     fault = readBehindPart();
@@ -764,28 +812,39 @@ public final class ClockLodgers {
             return fault;
         }
 
-        private void expectNot() {
+        private void wantPart(boolean orNot) {
             wantsPart = true;
-            notMayStand = true;
+            notMayStand = orNot;
             nots = 0;
         }
 
         private int readPart() {
-            if (tokens.kind != Tokens.WORD && tokens.kind != Tokens.NUMBER && tokens.kind != '(') {
+            boolean isNumber = tokens.kind() == Tokens.NUMBER;
+            if (!isNumber && !tokens.isWord() && tokens.kind() != '(') {
                 return HouseReader.CANT_STAND;
             }
             if (depth >= MOST_DEPTH) {
                 return HouseReader.TOO_MUCH;
             }
-            if (tokens.kind == Tokens.WORD) {
-                return notMayStand && tokens.isWord("not") ? readNot() : readValue();
-            }
-            if (tokens.kind == Tokens.NUMBER) {
+            if (isNumber) {
                 return readConstant();
+            }
+            if (tokens.isWord()) {
+                return notMayStand && tokens.kind() == Tokens.NOT ? readNot() : readValue();
             }
             push(OPEN);
             depth++;
-            expectNot();
+            wantPart(true);
+            tokens.advance();
+            return 0;
+        }
+
+        private int readConstant() {
+            if (tokens.number() == NONE) {
+                return HouseReader.TOO_MUCH;
+            }
+            draft.addCode(tokens.number());
+            wantsPart = false;
             tokens.advance();
             return 0;
         }
@@ -801,90 +860,58 @@ public final class ClockLodgers {
         }
 
         private int readValue() {
-            int value = valueTold();
-            if (value == NONE) {
+            if (tokens.kind() < Tokens.FIRST_VALUE || tokens.kind() > Tokens.LAST_VALUE) {
                 return HouseReader.UNKNOWN;
             }
-            draft.addCode(VALUE + value);
-            wantsPart = false;
-            tokens.advance();
-            return 0;
-        }
-
-        private int valueTold() {
-            if (tokens.isWord("weight")) {
-                return RuleJudge.WEIGHT;
-            }
-            if (tokens.isWord("half")) {
-                return RuleJudge.HALF;
-            }
-            if (tokens.isWord("hour")) {
-                return RuleJudge.HOUR;
-            }
-            if (tokens.isWord("hours")) {
-                return RuleJudge.HOW_MANY_HOURS;
-            }
-            if (tokens.isWord("other")) {
-                return RuleJudge.OTHER;
-            }
-            return tokens.isWord("quarrels") ? RuleJudge.QUARRELS : NONE;
-        }
-
-        private int readConstant() {
-            if (tokens.number == NONE) {
-                return HouseReader.TOO_MUCH;
-            }
-            draft.addCode(tokens.number);
+            draft.addCode(VALUE + tokens.kind() - Tokens.FIRST_VALUE);
             wantsPart = false;
             tokens.advance();
             return 0;
         }
 
         private int readBehindPart() {
-            if (tokens.kind == ')') {
+            if (tokens.kind() == ')') {
                 return readClose();
             }
             int operator = operatorTold();
             if (operator == NONE) {
                 return HouseReader.CANT_STAND;
             }
-            if (operator == LESS || operator == SAME) {
-                writeBinding(BINDS_SUM);
-                if (topBinds() == BINDS_TEST) {
+            if (BINDS[operator] == TEST) {
+                writeBinding(SUM);
+                if (topBinds() == TEST) {
                     return HouseReader.CANT_STAND;
                 }
             }
             writeBinding(BINDS[operator]);
             push(operator);
-            wantsPart = true;
-            notMayStand = operator == OR || operator == AND;
-            nots = 0;
+            wantPart(operator == OR || operator == AND);
             tokens.advance();
             return 0;
         }
 
         private int operatorTold() {
-            switch (tokens.kind) {
+            switch (tokens.kind()) {
+                case Tokens.OR: return OR;
+                case Tokens.AND: return AND;
                 case '<': return LESS;
                 case '=': return SAME;
                 case '+': return PLUS;
                 case '-': return MINUS;
                 case '*': return TIMES;
                 case '/': return OVER;
-                default: break;
+                default: return NONE;
             }
-            if (tokens.isWord("or")) {
-                return OR;
-            }
-            return tokens.isWord("and") ? AND : NONE;
         }
 
         private int readClose() {
             if (depth == 0) {
                 return HouseReader.CANT_STAND;
             }
-            writeFrom(OR);
-            waits--;
+            writeBinding(LOOSEST);
+            if (waits > 0) {
+                waits--;
+            }
             depth--;
             tokens.advance();
             return 0;
@@ -899,10 +926,6 @@ public final class ClockLodgers {
 
         private int topBinds() {
             return waits > 0 ? BINDS[waiting[waits - 1]] : 0;
-        }
-
-        private void writeFrom(int operator) {
-            writeBinding(BINDS[operator]);
         }
 
         /** Writes what waits and binds at least so tightly; a parenthesis binds less than all and stays. */
@@ -954,26 +977,21 @@ public final class ClockLodgers {
             int size = 0;
             for (int i = start; i < end; i++) {
                 int part = dwelling.code[i];
-                if (part >= RuleReader.OPERATOR) {
-                    size = join(part - RuleReader.OPERATOR, size);
-                } else if (size < MOST_OPERANDS) {
-                    operands[size] = part < RuleReader.VALUE ? part : values[part - RuleReader.VALUE];
-                    size++;
+                if (part < RuleReader.OPERATOR) {
+                    if (size < MOST_OPERANDS) {
+                        operands[size] = part < RuleReader.VALUE ? part : values[part - RuleReader.VALUE];
+                        size++;
+                    }
+                } else if (part == RuleReader.OPERATOR + RuleReader.NOT) {
+                    if (size > 0) {
+                        operands[size - 1] = operands[size - 1] == 0 ? 1 : 0;
+                    }
+                } else if (size > 1) {
+                    size--;
+                    operands[size - 1] = joined(part - RuleReader.OPERATOR, operands[size - 1], operands[size]);
                 }
             }
             return operands[0];
-        }
-
-        private int join(int operator, int size) {
-            if (operator == RuleReader.NOT && size > 0) {
-                operands[size - 1] = operands[size - 1] == 0 ? 1 : 0;
-                return size;
-            }
-            if (size < 2) {
-                return size;
-            }
-            operands[size - 2] = joined(operator, operands[size - 2], operands[size - 1]);
-            return size - 1;
         }
 
         private static int joined(int operator, int a, int b) {
@@ -1072,15 +1090,20 @@ public final class ClockLodgers {
             half[size] = inHalf;
             from[size] = first;
             to[size] = last;
-            Arrays.fill(cells, inHalf * HOURS + first, inHalf * HOURS + last + 1, size);
+            fillCells(size);
         }
 
         private void moveOut() {
-            int row = half[size] * HOURS;
-            Arrays.fill(cells, row + from[size], row + to[size] + 1, NONE);
+            fillCells(NONE);
         }
 
-        /** Only the hours of the new lease are looked at: in all others the rules hold since the leases there were granted, as each state is one that was granted once. */
+        private void fillCells(int lease) {
+            for (int hour = from[size]; hour <= to[size]; hour++) {
+                cells[half[size] * HOURS + hour] = lease;
+            }
+        }
+
+        /** In other hours than the new lease's nothing would change: there the rules hold, as all were granted. */
         private boolean rulesWouldHold(int who, int inHalf, int first, int last) {
             if (dwelling.rules == 0) {
                 return true;
@@ -1102,7 +1125,8 @@ public final class ClockLodgers {
             int left = who(LEFT, hour);
             int right = who(RIGHT, hour);
             int self = tenant[lease];
-            int other = (inHalf == LEFT ? 0 : dwelling.weightOf(left)) + (inHalf == RIGHT ? 0 : dwelling.weightOf(right));
+            int other = inHalf == LEFT ? 0 : dwelling.weightOf(left);
+            other += inHalf == RIGHT ? 0 : dwelling.weightOf(right);
             int quarrels = dwelling.quarrelsOf(self, left) + dwelling.quarrelsOf(self, right)
                     + dwelling.quarrelsOf(self, who(PAUSE, hour));
             return ruleJudge.holdOf(self, inHalf, hour, to[lease] - from[lease] + 1, other, quarrels);
@@ -1207,7 +1231,7 @@ public final class ClockLodgers {
             return sum;
         }
 
-        private int slownessOfDay(int oilLeft) {
+        int slownessOfDay(int oilLeft) {
             return slowness(0, LAST_HOUR, oilLeft, NONE);
         }
 
@@ -1228,42 +1252,40 @@ public final class ClockLodgers {
             return NONE;
         }
 
+        /** Goes by runs of days of like oil, as these are of like slowness. */
         int daysToBirthday(int day) {
             int sum = 0;
-            int oilLeft = dwelling.oilLeft(day);
-            int ofDay = slownessOfDay(oilLeft);
-            for (int today = day; today <= LAST_DAY; today++) {
-                // Days of like oil are of like slowness, so it is reckoned anew only as oil goes.
-                if (dwelling.oilLeft(today) != oilLeft) {
-                    oilLeft = dwelling.oilLeft(today);
-                    ofDay = slownessOfDay(oilLeft);
+            int start = day;
+            for (int run = 0; run <= MOST_OIL && start <= LAST_DAY; run++) {
+                int ofDay = slownessOfDay(dwelling.oilLeft(start));
+                int end = dwelling.dayOfLessOil(start);
+                int needed = ofDay < 0 ? daysToADay(-sum, -ofDay) : daysToADay(sum, ofDay);
+                if (needed <= end - start) {
+                    int days = start - day + needed;
+                    return ofDay < 0 ? -days : days;
                 }
-                sum += ofDay;
-                if (sum >= A_DAY) {
-                    return today - day + 1;
-                }
-                if (sum <= -A_DAY) {
-                    return day - today - 1;
-                }
+                sum += ofDay * (end - start);
+                start = end;
             }
             return 0;
         }
 
-        int hoursHere(int who, int base, int day) {
+        private static int daysToADay(int sum, int ofDay) {
+            return ofDay <= 0 ? LAST_DAY + 2 : (A_DAY - sum + ofDay - 1) / ofDay;
+        }
+
+        int hoursHere(int who, int base, int hereWithout) {
             int best = 0;
-            int least = fartherOfBoth(who, base, day, 0);
             for (int hours = 1; hours <= dwelling.stay[who]; hours++) {
-                int far = fartherOfBoth(who, base, day, hours);
-                if (far < least) {
-                    least = far;
+                if (fartherOfBoth(who, base, hereWithout, hours) < fartherOfBoth(who, base, hereWithout, best)) {
                     best = hours;
                 }
             }
             return best;
         }
 
-        int fartherOfBoth(int who, int base, int day, int hours) {
-            int here = slownessOfDay(dwelling.oilLeft(day)) + dwelling.weight[who] * hours;
+        int fartherOfBoth(int who, int base, int hereWithout, int hours) {
+            int here = hereWithout + dwelling.weight[who] * hours;
             int there = HOURS * (2 * base - RIGHT_SWING) + dwelling.weight[who] * (dwelling.stay[who] - hours);
             return Math.max(Math.abs(here), Math.abs(there));
         }
@@ -1291,13 +1313,16 @@ public final class ClockLodgers {
         private static final int STEP = 3;
         private static final int MORNING = 4095;
         private static final int MORNING_HOURS = 12;
-        private static final int NO_WAY = Integer.MAX_VALUE;
+        private static final int NO_WAY = 1000000;
 
         private final House dwelling;
         private final RuleJudge ruleJudge;
         private final int[] who = new int[MOST_ANEW];
         private int size;
-        /** By each one and his slot: its hours, those in which the rules hold while he is alone, and while another one is in the other half. */
+        /**
+         * By each one and his slot: its hours (none, if he can't be there, whoever else is in), and
+         * those in which the rules hold of him alone, and beside each other one.
+         */
         private final int[] span = new int[MOST_ANEW * SLOTS];
         private final int[] alone = new int[MOST_ANEW * SLOTS];
         private final int[] beside = new int[MOST_ANEW * SLOTS * MOST_ANEW];
@@ -1368,13 +1393,15 @@ public final class ClockLodgers {
             }
             int from = fromOf(s);
             int to = Math.min(LAST_HOUR, from + dwelling.stay[who[one]] - 1);
-            span[at] = hourBits(from, to);
             alone[at] = goodHours(one, halfOf(s), from, to, NONE);
+            int good = alone[at];
             for (int other = 0; other < size; other++) {
                 if (other != one) {
                     beside[at * MOST_ANEW + other] = goodHours(one, halfOf(s), from, to, who[other]);
+                    good |= beside[at * MOST_ANEW + other];
                 }
             }
+            span[at] = good == hourBits(from, to) ? good : 0;
         }
 
         private int goodHours(int one, int half, int from, int to, int other) {
@@ -1389,7 +1416,7 @@ public final class ClockLodgers {
             return bits;
         }
 
-        /** Whoever comes later only makes the sum greater, by at most mostBehind: no way is tried that can't be nearer to 0. */
+        /** Whoever comes later adds 0 to mostBehind to the sum: what can't come nearer to 0 isn't tried. */
         private void placeFrom(int one, int sum) {
             if (sum >= best || -(sum + mostBehind[one]) >= best) {
                 return;
@@ -1572,7 +1599,7 @@ public final class ClockLodgers {
             }
         }
 
-        /** The marriage theorem: each can have an hour of his own, if any some of them have as many hours together as they are. */
+        /** By Hall's theorem: each can have an hour of his own, if no some of them have fewer than they are. */
         private boolean canVisit(int tenants, int hours) {
             for (int some = 1; some <= tenants; some++) {
                 if ((some & ~tenants) == 0 && Integer.bitCount(hoursOfSome[some] & hours) < Integer.bitCount(some)) {
