@@ -805,8 +805,10 @@ public final class ClockLodgers {
                 } else if (tokens.kind() == ';' && depth == 0) {
                     writeBinding(LOOSEST);
                     return 0;
+                } else if (tokens.kind() == ')') {
+                    fault = readClose();
                 } else {
-                    fault = readBehindPart();
+                    fault = readOperator();
                 }
             }
             return fault;
@@ -869,17 +871,14 @@ public final class ClockLodgers {
             return 0;
         }
 
-        private int readBehindPart() {
-            if (tokens.kind() == ')') {
-                return readClose();
-            }
+        private int readOperator() {
             int operator = operatorTold();
             if (operator == NONE) {
                 return HouseReader.CANT_STAND;
             }
             if (BINDS[operator] == TEST) {
                 writeBinding(SUM);
-                if (topBinds() == TEST) {
+                if (waits > 0 && BINDS[waiting[waits - 1]] == TEST) {
                     return HouseReader.CANT_STAND;
                 }
             }
@@ -924,13 +923,9 @@ public final class ClockLodgers {
             }
         }
 
-        private int topBinds() {
-            return waits > 0 ? BINDS[waiting[waits - 1]] : 0;
-        }
-
         /** Writes what waits and binds at least so tightly; a parenthesis binds less than all and stays. */
         private void writeBinding(int least) {
-            while (waits > 0 && topBinds() >= least) {
+            while (waits > 0 && BINDS[waiting[waits - 1]] >= least) {
                 waits--;
                 draft.addCode(OPERATOR + waiting[waits]);
             }
