@@ -415,7 +415,7 @@ public final class ClockLodgers {
             if (oilLeft(day) == 0 || oilDays <= 0) {
                 return LAST_DAY + 1;
             }
-            return Math.min(LAST_DAY + 1, (day / oilDays + 1) * oilDays);
+            return (day / oilDays + 1) * oilDays;
         }
 
         int swingOf(int left, int right, int pause, int oilLeft) {

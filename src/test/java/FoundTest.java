@@ -9,6 +9,7 @@ public final class FoundTest {
         visits();
         rents();
         shares();
+        smallestRent();
         sublets();
         strangeNumbers();
         Check.end();
@@ -78,6 +79,8 @@ public final class FoundTest {
         Check.due("housed(0)", 0, clock.housed(0));
         Check.due("housed(1)", 24, clock.housed(1));
         ClockLodgers ruled = Check.clock("base 29;tenant 3 both 3 1;tenant 3 both 3 1;quarrel 0 1;rule quarrels=0;");
+        Check.due("a quarrel is ruled out for the left one", 6,
+                Check.clock("base 29;tenant 3 both 3 1;tenant 3 both 3 1;quarrel 0 1;rule half=1 or quarrels=0;").house4(3, 0));
         Check.due("a quarrel is ruled out", 6, ruled.house4(3, 0));
         Check.due("housed(0)", 0, ruled.housed(0));
         Check.due("housed(1)", 3, ruled.housed(1));
@@ -201,6 +204,14 @@ public final class FoundTest {
         Check.noSuch("shared(-1, -1)", () -> clock.shared(-1, -1));
         Check.illegal("shared(0, -1)", () -> clock.shared(0, -1));
         Check.illegal("shared(0, 10000)", () -> clock.shared(0, 10000));
+    }
+
+    private static void smallestRent() {
+        ClockLodgers clock = Check.clock("tenant 1 left 1 1;tenant 1 right 1 0;");
+        clock.lease(0, 0, 5, 5);
+        clock.lease(1, 1, 5, 5);
+        Check.due("all for a rent of 1", 777, clock.shared(0, 777));
+        Check.due("none for no rent", 0, clock.shared(1, 777));
     }
 
     private static void sublets() {

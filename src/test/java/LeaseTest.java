@@ -69,6 +69,13 @@ public final class LeaseTest {
         holds("(1+2)*3=9", true);
         holds("7=1+2*3", true);
         holds("10-3-2=5", true);
+        holds("10-2*3=4", true);
+        holds("10-6/2=7", true);
+        holds("1+6/2=4", true);
+        holds("10-2+3=11", true);
+        holds("(1=1)=1", true);
+        holds("(1<2)+(2=2)=2", true);
+        holds("(1 and 2)+(0 or 3)+(not 0)=3", true);
         holds("10-(3-2)=9", true);
         holds("100/10/5=2", true);
         holds("100/(10/5)=50", true);

@@ -86,6 +86,12 @@ public final class SwingTest {
         ClockLodgers always = Check.clock("base 60;stop 119;");
         Check.due("the first Sunday", 6, always.wedding(0));
         Check.due("just not above", -1, Check.clock("base 60;stop 120;").wedding(0));
+        ClockLodgers edges = Check.clock("stop 70;tenant 15 left 1 1;");
+        edges.lease(0, 0, 0, 0);
+        Check.due("in the first hour", 6, edges.wedding(0));
+        edges.undo();
+        edges.lease(0, 0, 23, 23);
+        Check.due("in the last hour", 6, edges.wedding(0));
         ClockLodgers late = Check.clock("base 36;oil 30 99;stop 71;");
         Check.due("as all oil is gone", 2974, late.wedding(0));
     }

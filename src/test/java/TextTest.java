@@ -56,6 +56,11 @@ public final class TextTest {
         Check.due("BASE fed", 31, clock.count(0));
         Check.due("OIL fed", 9, clock.count(1));
         Check.due("days fed", 98, clock.count(2));
+        // as many tokens as bytes
+        Check.fault(";".repeat(600), 1, 0);
+        Check.fault("rule" + "(".repeat(596), 2, 10);
+        Check.fault("rule" + "1+".repeat(297) + "1;", 0, -1);
+        Check.fault("rule" + "1+".repeat(298), 1, 600);
         // bytes from 128 on are no tokens
         Check.due("feed", 20, clock.feed(0x20ff8080, -1, -1, -1, -1));
         Check.due("house of high bytes", 1, clock.house(20));
@@ -170,6 +175,10 @@ public final class TextTest {
         Check.fault("rule base;", 3, 5);
         Check.fault("rule high;", 3, 5);
         Check.fault("rule hourss;", 3, 5);
+        Check.fault("rule z;", 3, 5);
+        Check.fault("rule 1 and zaz;", 3, 11);
+        Check.fault("rule `;", 1, 5);
+        Check.fault("rule {;", 1, 5);
         Check.fault("rule not x;", 3, 9);
         Check.fault("rule not ;", 1, 9);
         Check.fault("rule 1 or;", 1, 9);
