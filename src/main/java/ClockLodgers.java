@@ -1383,11 +1383,12 @@ public final class ClockLodgers {
         private void measure(int one, int s) {
             int at = one * SLOTS + s;
             span[at] = 0;
-            if (!dwelling.breathLets(who[one], halfOf(s))) {
+            int from = fromOf(s);
+            int to = from + dwelling.stay[who[one]] - 1;
+            // A stay is had whole: where it would go beyond the last hour is no place for him.
+            if (to > LAST_HOUR || !dwelling.breathLets(who[one], halfOf(s))) {
                 return;
             }
-            int from = fromOf(s);
-            int to = Math.min(LAST_HOUR, from + dwelling.stay[who[one]] - 1);
             alone[at] = goodHours(one, halfOf(s), from, to, NONE);
             int good = alone[at];
             for (int other = 0; other < size; other++) {

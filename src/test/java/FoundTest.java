@@ -2,6 +2,7 @@
 public final class FoundTest {
     public static void main(String[] args) {
         housedAnew();
+        housedForTheWholeStay();
         housedByRules();
         housedByQuarrels();
         wrongHousing();
@@ -44,11 +45,27 @@ public final class FoundTest {
         Check.due("housed(1)", 3, oiled.housed(1));
     }
 
+    /** A place from which a stay would go beyond hour 23 is none; the stay isn't cut short there. */
+    private static void housedForTheWholeStay() {
+        int[][] lastFroms = {{1, 21}, {2, 21}, {3, 21}, {4, 18}, {6, 18}, {7, 15}, {9, 15}, {10, 12}, {12, 12}};
+        for (int[] w : lastFroms) {
+            String tenant = "tenant 5 both " + w[0] + " 1;rule ";
+            ClockLodgers last = Check.clock(tenant + (w[1] - 1) + "<hour;");
+            Check.due("the last place for " + w[0] + " hours", 0, last.house4(1, 0));
+            Check.due("housed(0)", w[1], last.housed(0));
+            Check.due("no place behind it", -1, Check.clock(tenant + w[1] + "<hour;").house4(1, 0));
+        }
+        Check.due("no other hours than the stay's", -1, Check.clock("tenant 5 both 12 1;rule hours<12;").house4(1, 0));
+        ClockLodgers left = Check.clock("tenant 5 left 6 1;tenant 7 left 12 1;");
+        Check.due("one half for two", 30, left.house4(3, 0));
+        Check.due("housed(0)", 0, left.housed(0));
+        Check.due("housed(1)", 12, left.housed(1));
+        Check.due("a day is too short for three", -1,
+                Check.clock("tenant 5 left 12 1;tenant 7 left 12 1;tenant 1 left 1 1;").house4(7, 0));
+    }
+
     private static void housedByRules() {
-        ClockLodgers late = Check.clock("tenant 5 both 12 1;rule hours=3;");
-        Check.due("a stay cut by midnight", 0, late.house4(1, 0));
-        Check.due("housed(0)", 21, late.housed(0));
-        ClockLodgers right = Check.clock("tenant 5 both 12 1;rule half=1 and hours=6;");
+        ClockLodgers right = Check.clock("tenant 5 both 6 1;rule half=1 and 17<hour and hours=6;");
         Check.due("to the right", 0, right.house4(1, 0));
         Check.due("housed(0)", 42, right.housed(0));
         ClockLodgers morning = Check.clock("tenant 5 both 2 1;tenant 1 both 2 1;rule hour<12;");
@@ -57,10 +74,12 @@ public final class FoundTest {
         Check.due("two of a morning", 12, morning.house4(3, 0));
         Check.due("housed(0)", 0, morning.housed(0));
         Check.due("housed(1)", 3, morning.housed(1));
-        ClockLodgers night = Check.clock("tenant 5 both 3 1;tenant 1 both 6 1;rule 0<other;");
+        ClockLodgers night = Check.clock("tenant 5 both 3 1;tenant 1 both 3 1;rule 0<other;rule 20<hour;");
         Check.due("company until midnight", 0, night.house4(3, 0));
         Check.due("housed(0)", 21, night.housed(0));
         Check.due("housed(1)", 45, night.housed(1));
+        ClockLodgers longer = Check.clock("tenant 5 both 3 1;tenant 1 both 6 1;rule 0<other;");
+        Check.due("midnight makes no stay as short as another", -1, longer.house4(3, 0));
         ClockLodgers company = Check.clock("tenant 5 both 2 1;tenant 1 both 3 1;rule 0<other;");
         Check.due("no company", -1, company.house4(3, 0));
         Check.noSuch("none is kept", () -> company.housed(0));

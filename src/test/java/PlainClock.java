@@ -603,10 +603,10 @@ final class PlainClock {
         Tenant x = tenants.get(t);
         for (int half = 0; half < 2; half++) {
             for (int from = 0; from < 24; from += 3) {
-                int to = Math.min(23, from + x.stay - 1);
+                int to = from + x.stay - 1;
                 boolean may = x.breath == 2 || x.breath == half;
                 for (int h = from; h <= to; h++) {
-                    may &= at(ways, half, h) == null;
+                    may &= h <= 23 && at(ways, half, h) == null;
                 }
                 if (may) {
                     ways.add(new Lease(t, half, from, to));
