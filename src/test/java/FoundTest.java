@@ -47,13 +47,14 @@ public final class FoundTest {
 
     /** A place from which a stay would go beyond hour 23 is none; the stay isn't cut short there. */
     private static void housedForTheWholeStay() {
-        int[][] lastFroms = {{1, 21}, {2, 21}, {3, 21}, {4, 18}, {6, 18}, {7, 15}, {9, 15}, {10, 12}, {12, 12}};
-        for (int[] w : lastFroms) {
-            String tenant = "tenant 5 both " + w[0] + " 1;rule ";
-            ClockLodgers last = Check.clock(tenant + (w[1] - 1) + "<hour;");
-            Check.due("the last place for " + w[0] + " hours", 0, last.house4(1, 0));
-            Check.due("housed(0)", w[1], last.housed(0));
-            Check.due("no place behind it", -1, Check.clock(tenant + w[1] + "<hour;").house4(1, 0));
+        int[] lastFroms = {21, 21, 21, 18, 18, 18, 15, 15, 15, 12, 12, 12};
+        for (int stay = 1; stay <= 12; stay++) {
+            int from = lastFroms[stay - 1];
+            String tenant = "tenant 5 both " + stay + " 1;rule ";
+            ClockLodgers last = Check.clock(tenant + (from - 1) + "<hour;");
+            Check.due("the last place for " + stay + " hours", 0, last.house4(1, 0));
+            Check.due("housed(0)", from, last.housed(0));
+            Check.due("no place behind it", -1, Check.clock(tenant + from + "<hour;").house4(1, 0));
         }
         Check.due("no other hours than the stay's", -1, Check.clock("tenant 5 both 12 1;rule hours<12;").house4(1, 0));
         ClockLodgers left = Check.clock("tenant 5 left 6 1;tenant 7 left 12 1;");
