@@ -9,23 +9,32 @@ final class Check {
 
     private static int looked = 0;
     private static int wrong = 0;
+    private static int sentences = 0;
+    private static String sentence = "";
 
     private Check() {
     }
 
+    /** The sentence of the document that the answers from here on are about. */
+    static void sentence(String words) {
+        sentences++;
+        sentence = words;
+    }
+
     static void due(String what, long want, long got) {
-        looked++;
-        if (want != got) {
-            wrong++;
-            System.out.println(what + " answered " + got + ", due is " + want);
-        }
+        due(what, Long.toString(want), Long.toString(got));
+    }
+
+    static void due(String what, boolean want, boolean got) {
+        due(what, Boolean.toString(want), Boolean.toString(got));
     }
 
     static void due(String what, String want, String got) {
         looked++;
         if (!want.equals(got)) {
             wrong++;
-            System.out.println(what + " answered " + got + ", due is " + want);
+            System.out.println(what + " answered " + got + ", due is " + want
+                    + (sentence.isEmpty() ? "" : " by the words: " + sentence));
         }
     }
 
@@ -87,7 +96,7 @@ final class Check {
     }
 
     static void end() {
-        System.out.println(looked + " answers, " + wrong + " wrong");
+        System.out.println((sentences > 0 ? sentences + " sentences, " : "") + looked + " answers, " + wrong + " wrong");
         if (wrong > 0) {
             System.exit(1);
         }
