@@ -634,6 +634,7 @@ public final class DayEdgesTest {
     private static void images() {
         inPlaceOfAnother();
         asTheImageAgain();
+        asTheImageElsewhere();
         noImage();
     }
 
@@ -687,6 +688,33 @@ public final class DayEdgesTest {
         Check.due("the last LEASE of the image is undone first", 11, clock.undo());
         Check.due("in(2, 9)", -1, clock.in(2, 9));
         Check.due("in(2, 8)", 2, clock.in(2, 8));
+    }
+
+    private static void asTheImageElsewhere() {
+        Check.sentence("They are as the image again");
+        ClockLodgers moved = Check.clock(THREE);
+        moved.lease(0, 0, 3, 5);
+        moved.lease(1, 1, 4, 6);
+        moved.image();
+        moved.undo();
+        moved.undo();
+        moved.lease(2, 1, 20, 23);
+        moved.lease(2, 0, 0, 1);
+        Check.due("restore()", true, moved.restore());
+        int[] hours = {3, 3, 0};
+        for (int tenant = 0; tenant < 3; tenant++) {
+            Check.due("tenant(" + tenant + ", 4)", hours[tenant], moved.tenant(tenant, 4));
+            Check.due("rent(" + tenant + ")", hours[tenant], moved.rent(tenant));
+        }
+        Check.due("a pause where both are let", 0, moved.judge(2, 2, 4, 5));
+        Check.due("a pause where one is let", 5, moved.judge(2, 2, 4, 6));
+        Check.due("undo()", 1, moved.undo());
+        Check.due("the right is free", -1, moved.in(1, 4));
+        Check.due("the right is free", -1, moved.in(1, 6));
+        Check.due("the left isn't", 0, moved.in(0, 3));
+        Check.due("undo()", 0, moved.undo());
+        Check.due("the left is free", -1, moved.in(0, 3));
+        Check.due("the left is free", -1, moved.in(0, 5));
     }
 
     private static void noImage() {

@@ -174,6 +174,9 @@ public final class FoundEdgesTest {
         ClockLodgers alone = Check.clock(two + "rule other=0;rule hour<3;");
         Check.due("two alone in one place", -1, alone.house4(3, 0));
         Check.due("one alone", 6, alone.house4(1, 0));
+        ClockLodgers needsCompany = Check.clock(two + "rule weight=4 or 0<other;");
+        Check.due("the first alone needs company", 0, needsCompany.house4(3, 0));
+        rowOfHoused(needsCompany, 12, 36);
         String sides = "tenant 2 left 3 1;tenant 4 right 4 1;rule other=0;rule hour<";
         ClockLodgers beside = Check.clock(sides + "7;");
         Check.due("one behind the other", 22, beside.house4(3, 0));
@@ -184,6 +187,8 @@ public final class FoundEdgesTest {
     private static void housedHow() {
         fromZeroToEleven();
         nearestToZero();
+        nearerLater();
+        otherHouseAhead();
         firstOfLikeOnes();
         onADay();
     }
@@ -216,6 +221,35 @@ public final class FoundEdgesTest {
                 + "tenant 20 both 12 1;quarrel 0 1;quarrel 2 3;quarrel 0 2;quarrel 1 3;quarrel 0 3;quarrel 1 2;");
         Check.due("the farthest there is", 12 * (60 + 20 + 20 + 3), farthest.house4(15, 0));
         Check.due("the farthest below", 12 * 50, Check.clock("base 20;oil 30 1;tenant 0 left 1 1;").house4(1, 0));
+    }
+
+    /** The first TENANT's first place is the worst for both: what comes later is nearer. */
+    private static void nearerLater() {
+        Check.sentence("as near to 0 as can be, of like ones the first");
+        ClockLodgers weight = Check.clock("base 29;tenant 0 left 3 1;tenant 9 left 3 1;rule weight=0 or hour<3 or 11<hour;");
+        Check.due("by the WEIGHT of the second", 3, weight.house4(3, 0));
+        rowOfHoused(weight, 3, 0);
+        ClockLodgers quarrel = Check.clock("base 29;tenant 0 left 3 1;tenant 0 right 3 1;quarrel 0 1;rule half=0 or 2<hour;");
+        Check.due("by their quarrel", 15, quarrel.house4(3, 0));
+        rowOfHoused(quarrel, 3, 27);
+        ClockLodgers again = Check.clock("base 29;tenant 9 left 3 1;tenant 9 left 3 1;tenant 20 left 3 1;tenant 20 both 12 1;");
+        Check.due("four of them", 3, again.house4(15, 0));
+        Check.due("one of them", 3, again.house4(1, 0));
+        rowOfHoused(again, 0, -1, -1, -1);
+        Check.due("two of them", 3, again.house4(3, 0));
+        Check.due("one of them", 3, again.house4(2, 0));
+        rowOfHoused(again, -1, 0, -1, -1);
+    }
+
+    private static void otherHouseAhead() {
+        Check.sentence("HOUSED ANEW are some TENANTS");
+        ClockLodgers clock = Check.clock("tenant 5 both 3 1;tenant 5 both 3 1;");
+        Check.due("both halves", 0, clock.house4(3, 0));
+        Check.due("another house", 0, Check.read(clock, "tenant 5 left 3 1;tenant 5 left 12 1;rule hour<12;"));
+        Check.due("one half, in the morning", 15, clock.house4(1, 0));
+        rowOfHoused(clock, 0, -1);
+        Check.due("all the morning", 60, clock.house4(2, 0));
+        Check.due("no room for both", -1, clock.house4(3, 0));
     }
 
     private static void firstOfLikeOnes() {

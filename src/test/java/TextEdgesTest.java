@@ -87,6 +87,7 @@ public final class TextEdgesTest {
         Check.fault(" ".repeat(592) + "base 311", 2, 597);
         Check.fault(" ".repeat(593) + "base 31", 1, 600);
         Check.fault(";".repeat(600), 1, 0);
+        Check.fault(";1".repeat(300), 1, 0);
         Check.fault("rule" + "1+".repeat(297) + "1;", 0, -1);
         Check.fault("rule" + "1+".repeat(298), 1, 600);
     }
@@ -235,6 +236,8 @@ public final class TextEdgesTest {
     private static void grammar() {
         anyLines();
         endOfLine();
+        oneWithinAnother();
+        anyNumberOfTimes();
         perhaps();
         rightOfTests();
     }
@@ -258,6 +261,47 @@ public final class TextEdgesTest {
         Check.fault("base (30);", 1, 5);
         Check.fault("tenant both both 1 1;", 1, 7);
         Check.fault(TWO + "quarrel 0 half;", 1, 46);
+    }
+
+    private static void oneWithinAnother() {
+        Check.sentence("EXPR: AND ('or' AND)*. AND: NOT ('and' NOT)*.");
+        holds("1 or 0 and 0", true);
+        holds("0 and 0 or 1", true);
+        holds("(1 or 0) and 0", false);
+        holds("not 0 and 0", false);
+        holds("not 1 or 1", true);
+        holds("not 1=2", true);
+        holds("not 0=0", false);
+        Check.sentence("SUM: PRODUCT (('+' | '-') PRODUCT)*. PRODUCT: PART (('*' | '/') PART)*.");
+        holds("1+2*3=7", true);
+        holds("10-2*3=4", true);
+        holds("10-6/2=7", true);
+        holds("2*3-1=5", true);
+        holds("1<0+2", true);
+        holds("2=1+1 and 1+1=2", true);
+    }
+
+    private static void anyNumberOfTimes() {
+        Check.sentence("In quotes is what stands there, * any number of times");
+        holds("1" + "+1".repeat(200) + "=201", true);
+        holds("1" + "-1".repeat(200) + "=0-199", true);
+        holds("1" + "*2".repeat(31) + "<0", true);
+        holds("1" + "*2".repeat(200) + "=0", true);
+        holds("9999" + "/2".repeat(13) + "=1", true);
+        holds("9999" + "/2".repeat(14) + "=0", true);
+        holds("0" + " or 0".repeat(100) + " or 7", true);
+        holds("0" + " or 0".repeat(100), false);
+        holds("1" + " and 1".repeat(80) + " and 7", true);
+        holds("1" + " and 1".repeat(80) + " and 0", false);
+        // every sign waits for what is to its right, in as many EXPRS within one another as there may be
+        String open = "0 or 1 and not not not not not not 0<0+1*(";
+        ClockLodgers deepest = Check.clock(ONE + "rule " + open.repeat(5) + "hour=3" + ")".repeat(5) + ";");
+        Check.due("it holds", 0, deepest.judge(0, 0, 3, 3));
+        Check.due("it doesn't hold", 6, deepest.judge(0, 0, 4, 4));
+        ClockLodgers full = Check.clock(ONE + "rule " + open.repeat(5) + open.substring(0, open.length() - 1)
+                + "hour" + ")".repeat(5) + ";");
+        Check.due("it holds", 0, full.judge(0, 0, 1, 23));
+        Check.due("it doesn't hold", 6, full.judge(0, 0, 0, 0));
     }
 
     private static void perhaps() {
@@ -462,6 +506,10 @@ public final class TextEdgesTest {
                 Check.due(quarrels + " of " + wanted, quarrels == wanted ? 0 : 6, clock.lease(2, 2, 0, 0));
             }
         }
+        ClockLodgers half = Check.clock(three + "quarrel 0 2;rule half=2 or quarrels<1;");
+        half.lease(0, 0, 0, 0);
+        half.lease(1, 1, 0, 0);
+        Check.due("of a half, with the one in the pause", 6, half.lease(2, 2, 0, 0));
         ClockLodgers away = Check.clock(TWO + "quarrel 0 1;rule quarrels=0;");
         away.lease(0, 0, 3, 4);
         Check.due("in then", 6, away.judge(1, 1, 4, 5));
@@ -731,6 +779,11 @@ public final class TextEdgesTest {
             Check.due("count(" + what + ")", want[what], clock.count(what));
         }
         Check.due("NONE", -1, ClockLodgers.NONE);
+        for (int hour = 0; hour <= 23; hour++) {
+            for (int half = 0; half <= 2; half++) {
+                Check.due("in(" + half + ", " + hour + ")", -1, clock.in(half, hour));
+            }
+        }
         Check.due("judge(0, 0, 0, 0)", 1, clock.judge(0, 0, 0, 0));
         Check.noSuch("tenant(0, 0)", () -> clock.tenant(0, 0));
         Check.noSuch("slowBy(0, 0)", () -> clock.slowBy(0, 0));
@@ -806,6 +859,7 @@ public final class TextEdgesTest {
 
     private static void house() {
         firstBytes();
+        allAnew();
         emptyThen();
         allStays();
         areGone();
@@ -828,6 +882,29 @@ public final class TextEdgesTest {
         Check.feed(clock, "base 31;oil 9 3;????");
         Check.due("none of 20", 0, clock.house(0));
         Check.due("BASE isn't told", 30, clock.count(0));
+    }
+
+    private static void allAnew() {
+        Check.sentence("are a HOUSE, all anew");
+        ClockLodgers clock = Check.clock(TWO + "quarrel 0 1;rule 1;rule 0<hour;");
+        String[] texts = {"rule 0;", "rule 1;", "rule hour=5;", "rule 1 and 0;rule 1;", "rule 1;rule 1;rule 1;rule 0;", ""};
+        int[] want = {6, 0, 6, 6, 6, 0};
+        for (int i = 0; i < texts.length; i++) {
+            Check.due("house", 0, Check.read(clock, ONE + texts[i]));
+            Check.due("under " + texts[i], want[i], clock.judge(0, 0, 0, 0));
+            Check.due("TENANTS", 1, clock.count(4));
+            Check.due("QUARRELS", 0, clock.tenant(0, 6));
+        }
+        String[] faulty = {"rule not 1+2*(", "rule (((((1", "rule not not not not not not ", "rule 1 or 1 and 1=1+1*;", "rule (((((("};
+        for (int round = 0; round < 10; round++) {
+            for (String text : faulty) {
+                Check.due("a FAULT", true, Check.read(clock, text) != 0);
+                Check.due("house", 0, Check.read(clock, ONE + "rule (((((not 0 and hour=5)))));"));
+                Check.due("it holds", 0, clock.judge(0, 0, 5, 5));
+                Check.due("it doesn't hold", 6, clock.judge(0, 0, 6, 6));
+                Check.due("too much, as ever", 2, Check.read(clock, "rule ((((((1))))));"));
+            }
+        }
     }
 
     private static void emptyThen() {
