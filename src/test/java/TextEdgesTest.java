@@ -887,8 +887,9 @@ public final class TextEdgesTest {
     private static void allAnew() {
         Check.sentence("are a HOUSE, all anew");
         ClockLodgers clock = Check.clock(TWO + "quarrel 0 1;rule 1;rule 0<hour;");
-        String[] texts = {"rule 0;", "rule 1;", "rule hour=5;", "rule 1 and 0;rule 1;", "rule 1;rule 1;rule 1;rule 0;", ""};
-        int[] want = {6, 0, 6, 6, 6, 0};
+        String[] texts = {"rule 0;", "rule 1;", "rule hour=5;", "rule 1 and 0;rule 1;", "rule 1;rule 1;rule 1;rule 0;", "",
+            "rule not 0;", "rule 1;", "rule not 1;", "rule 0;"};
+        int[] want = {6, 0, 6, 6, 6, 0, 0, 0, 6, 6};
         for (int i = 0; i < texts.length; i++) {
             Check.due("house", 0, Check.read(clock, ONE + texts[i]));
             Check.due("under " + texts[i], want[i], clock.judge(0, 0, 0, 0));
