@@ -15,10 +15,11 @@ final class Check {
     private Check() {
     }
 
-    /** The sentence of the document that the answers from here on are about. */
+    /** The sentence of the document that the answers from here on are about; it must stand there just so. */
     static void sentence(String words) {
         sentences++;
         sentence = words;
+        due("the document has these words", true, Document.says(words));
     }
 
     static void due(String what, long want, long got) {
